@@ -18,6 +18,7 @@ public final class ModelTest {
         }
         for (int seed = 1; seed <= 20 * runs && wrong < 20; seed++) {
             new ModelTest(seed).texts();
+            new ModelTest(seed).formulas();
         }
         System.out.println(wrong == 0 ? "all answers are the model's" : wrong + " answers are not the model's");
         if (wrong != 0) {
@@ -84,6 +85,17 @@ public final class ModelTest {
         tell(texts.broken());
         for (int what = 0; what <= 13; what++) {
             check("count(" + what + ")", bridge.count(what), model.count(what));
+        }
+    }
+
+    private void formulas() {
+        tell("bridge 4 4 4;heat 2;walker a 7 1 0 stay 1;law push " + texts.grammar(0, 3) + ";");
+        for (int time = 0; time < 3; time++) {
+            for (int c = 0; c < 4; c++) {
+                int foot = random.nextInt(2);
+                check("law 0 0 " + c + " " + foot, bridge.law(0, 0, c, foot), model.law(0, 0, c, foot));
+            }
+            two("beats", 1, 0);
         }
     }
 

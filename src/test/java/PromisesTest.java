@@ -173,6 +173,8 @@ public final class PromisesTest {
         x.beats(2);
         states("up", x, 24, 4, 0);
         due("feed", x.feed(0, 0, 0, 0, 0), 20);
+        x.groan(0, 0, 0, true);
+        due("all known", x.count(8), 1);
         WalkingBridge side = told("calm 0;walker a 1 9 0 stay 3;law side 16;");
         side.beats(2);
         states("side", side, 0, 0, 4, 24, 4, 0, 0, 0);
@@ -471,15 +473,18 @@ public final class PromisesTest {
         String[] formulas = {"2+3*4", "8-2-1", "8/2/2", "(2+3)*4", "(0-7)/2", "7/(0-2)", "1 or 0 and 0", "(1 or 0) and 0",
             "not 5", "not 0", "5 and 3", "0 or 9", "not 0 and 0", "not 1 or 1", "not 0=1", "not not 8", "1+1=2", "3<3", "3<=3",
             "3>=4", "4>3", "3<>3", "3<>4", "0-5<0-4", "2*(3>2)+1", "weight-7=0", "1000*1000*1000*1000",
-            "0-1000*1000*1000*1000", "9999*9999*9999/9999", "5-3+2", "12/5*5"};
+            "0-1000*1000*1000*1000", "9999*9999*9999/9999", "5-3+2", "12/5*5", "not 1=2", "4>=4", "4>4", "4<4", "4<=3",
+            "1=2 or 2=2 and 3=3", "not 0 or not 1 and 0", "2*3<7 and 7<=2*3+1", "1-(0<1)*2", "7-(7>6)-(6>7)", "0 or 0"};
         long[] values = {14, 5, 2, 20, -3, -3, 1, 0, 0, 1, 1, 1, 0, 1, 1, 1, 1, 0, 1, 0, 1, 0, 1, 1, 3, 1, 1000000000000L,
-            -1000000000000L, 99980001, 4, 10};
+            -1000000000000L, 99980001, 4, 10, 1, 1, 0, 0, 0, 1, 1, 1, -1, 6, 0};
         for (int i = 0; i < formulas.length; i++) {
             due(formulas[i], value(formulas[i]), values[i]);
         }
         String[] errors = {"1/0", "1/(weight-7)", "0*(1/0)", "1 or 1/0", "0 and 1/0", "1000*1000*1000*1000+1",
             "0-1000*1000*1000*1000-1", "9999*9999*9999*2", "1000*1000*1000*1000*(1000*1000*1000*1000)",
-            "4096*4096*4096*(4096*4096*4096)", "not (5/0)", "9999*9999*9999*2 > 0", "(0-9999)*9999*9999*2"};
+            "4096*4096*4096*(4096*4096*4096)", "not (5/0)", "9999*9999*9999*2 > 0", "(0-9999)*9999*9999*2",
+            "8192*8192*64*(8192*8192*64)", "8192*8192*64*(0-8192*8192*64)", "(0-8192*8192*64)*(8192*8192*64)",
+            "(0-8192*8192*64)*(0-8192*8192*64)", "0-1/0", "1/0=1/0"};
         for (String error : errors) {
             due(error, value(error), Long.MIN_VALUE);
         }
@@ -561,6 +566,10 @@ public final class PromisesTest {
         due("c on", x.look(2, 4), 1);
         x.beats(1);
         due("c walked on to none", x.look(2, 4), 2);
+        WalkingBridge least = told("bridge 2 0 0;calm 0;hold 1;walker a 2 9 0 stay 0;walker b 1 9 0 stay 1;");
+        least.beats(1);
+        due("hold 1", least.cell(0, 5), 1);
+        due("hold 1", least.cell(1, 5), 0);
         WalkingBridge all = told("bridge 2 0 0;calm 0;walker a 30 1 0 stay 0;");
         all.beats(60);
         due("without hold they hold all", all.count(10), 0);
@@ -593,6 +602,10 @@ public final class PromisesTest {
         x.beats(1);
         due("numbers go on", x.cell(0, 3), -75 + 15);
         due("numbers go on", x.cell(1, 3), 9 + 34);
+        WalkingBridge mild = told("bridge 3 0 0;calm 0;gale 1;seed 1;");
+        mild.blow(true);
+        mild.beats(1);
+        states("side", mild, 16838 % 3 - 1, 5758 % 3 - 1, 10113 % 3 - 1);
     }
 
     private static void bounds() {
@@ -809,6 +822,11 @@ public final class PromisesTest {
         due("weight 31", x.forbidden(1, 31, 0), NONE);
         due("what 2", x.forbidden(1, 10, 2), NONE);
         due("what -1", x.forbidden(1, 10, -1), NONE);
+        WalkingBridge ninth = told("bridge 2 0 0;law push (time=9)*50;");
+        due("the ninth beat", ninth.forbidden(10, 1, 0), 9);
+        WalkingBridge tenth = told("bridge 2 0 0;law push (time=10)*50;");
+        due("no tenth beat", tenth.forbidden(11, 1, 0), 1);
+        due("no tenth beat", tenth.forbidden(11, 1, 1), 0);
         WalkingBridge held = told("bridge 2 0 0;calm 0;hold 10;");
         due("planks hold at first", held.forbidden(64, 30, 1), 64 * 30);
         held.strike(0, 99);
@@ -1037,6 +1055,7 @@ public final class PromisesTest {
             due("gales(1, 1, " + one[0] + ")", x.gales(1, 1, one[0]), one[1]);
         }
         due("gales(1, 2, 99999)", x.gales(1, 2, 99999), 10);
+        due("the least seed", x.gales(0, 32, 99999), 10);
         due("the greatest seed", x.gales(Integer.MAX_VALUE, 32, 99999), 10);
         due("seed -1", x.gales(-1, 1, 1), NONE);
         due("n 0", x.gales(1, 0, 1), NONE);
@@ -1120,6 +1139,23 @@ public final class PromisesTest {
         }
         due("undo()", x.undo(), NONE);
         due("the first five stay", x.cell(1, 1), 1 + 2 + 3 + 4 + 5);
+        for (int i = 0; i < 4; i++) {
+            x.strike(0, 100);
+            x.fat(1, 3);
+            x.off(i % 2);
+            x.blow(i % 2 == 0);
+            x.strike(1, 1000 / (i + 2));
+            x.strike(0, i - 9);
+        }
+        due("20 at most", x.count(9), 20);
+        for (int i = 19; i >= 0; i--) {
+            due("undo()", x.undo(), i);
+        }
+        due("the first fat one stays", x.count(2), 1);
+        due("a is on", x.look(0, 4), 1);
+        due("the first strike stays", x.cell(0, 1), -19 + 100);
+        due("the other cell", x.cell(1, 1), 15);
+        due("it doesn't blow", x.count(11), 0);
     }
 
     private static void images() {

@@ -63,6 +63,34 @@ final class Texts {
         }
     }
 
+    /** A formula by the grammar, level 0 (E) to 5 (P), '(' only where it is drawn. */
+    String grammar(int level, int depth) {
+        StringBuilder text = new StringBuilder();
+        switch (level) {
+            case 0:
+            case 1:
+            case 4:
+            case 5:
+                text.append(grammar(level + 1, depth));
+                for (int i = once(3) ? draw(1, 2) : 0; i > 0; i--) {
+                    String[] signs = level == 0 ? new String[] {" or "} : level == 1 ? new String[] {" and "}
+                            : level == 4 ? new String[] {"+", "-"} : new String[] {"*", "/"};
+                    text.append(signs[random.nextInt(signs.length)]).append(grammar(level + 1, depth));
+                }
+                return text.toString();
+            case 2:
+                return once(5) ? "not " + grammar(2, depth) : grammar(3, depth);
+            case 3:
+                text.append(grammar(4, depth));
+                return once(3) ? text.append(SIGNS[random.nextInt(6)]).append(grammar(4, depth)).toString() : text.toString();
+            default:
+                if (depth > 0 && once(4)) {
+                    return "(" + grammar(0, depth - 1) + ")";
+                }
+                return once(3) ? NAMES[random.nextInt(6)] : String.valueOf(once(8) ? draw(0, 9999) : draw(0, 4));
+        }
+    }
+
     /** A formula that reads well most of the time; 1 stands in for what the grammar would not take. */
     private String law() {
         for (int tries = 0; tries < 50; tries++) {
