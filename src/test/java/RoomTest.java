@@ -1,0 +1,45 @@
+import java.lang.management.ManagementFactory;
+
+/** Calls make no objects: whatever a run asks, its room is what the constructors took. */
+public final class RoomTest {
+    private static void tell(WalkingBridge x, String text) {
+        for (int at = 0; at < text.length(); at += 20) {
+            int[] five = new int[5];
+            for (int i = 0; i < 20; i++) {
+                five[i / 4] = five[i / 4] << 8 | (at + i < text.length() ? text.charAt(at + i) : ' ');
+            }
+            x.feed(five[0], five[1], five[2], five[3], five[4]);
+        }
+        if (x.text(text.length()) < 0) {
+            throw new IllegalStateException("fault " + x.fault(0) + " at " + x.fault(1));
+        }
+    }
+
+    private static int askAll(WalkingBridge x) {
+        int sum = x.high(64) + x.creaks(0) + x.lies(32, 3, 20, 0) + x.fewest(32, 20, 0) + x.forbidden(64, 30, 1);
+        sum += x.cancel(0, 1, 64) + x.owes(1, 64) + x.pump(3, 50, 7, 1) + x.keeper(3, 50, 5, 40, 1);
+        sum += x.groan(63, 1, 5, true) + x.unsay(0) + x.began() + x.set(1) + x.sure(1) + x.fits();
+        sum += x.gales(77, 32, 500) + x.tried(4, 0, 64) + x.tried(10, 0, 64) + x.beats(3) + x.was(1) + x.look(0, 3);
+        sum += x.fat(1, 1) + x.strike(1, 1) + x.undo() + x.keep() + x.back() + x.count(12) + x.cell(1, 1);
+        return sum + (int) x.law(0, 0, 0, 0) + x.named(0, 1 << 25) + x.feed(1, 2, 3, 4, 5) + x.text(3) + x.fault(1);
+    }
+
+    public static void main(String[] args) {
+        com.sun.management.ThreadMXBean meter = (com.sun.management.ThreadMXBean) ManagementFactory.getThreadMXBean();
+        WalkingBridge x = new WalkingBridge();
+        tell(x, "bridge 12 4 4;calm 1;hold 900;gale 9;walker a 30 1 0 stay 5;walker b 9 2 1 right;walker c 8 1 2 left;"
+                + "fat f 2 9;sleep s 3 9999;may m weight*foot;law push weight+(sway<0)*3;law side 5-time/9;");
+        askAll(x);
+        long before = meter.getCurrentThreadAllocatedBytes();
+        int sum = 0;
+        for (int i = 0; i < 14; i++) {
+            sum += askAll(x);
+        }
+        long made = meter.getCurrentThreadAllocatedBytes() - before;
+        if (made > 20000) {
+            System.out.println("calls made objects of " + made + " bytes (" + sum + ")");
+            System.exit(1);
+        }
+        System.out.println("calls make no objects");
+    }
+}
