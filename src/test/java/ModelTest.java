@@ -67,11 +67,7 @@ public final class ModelTest {
         told.setLength(0);
         told.append(text);
         for (int at = 0; at < text.length(); at += 20) {
-            int[] five = new int[5];
-            for (int i = 0; i < 20; i++) {
-                int sign = at + i < text.length() ? text.charAt(at + i) : ' ';
-                five[i / 4] = five[i / 4] << 8 | sign;
-            }
+            int[] five = Fed.five(text, at);
             check("feed", bridge.feed(five[0], five[1], five[2], five[3], five[4]),
                     model.feed(five[0], five[1], five[2], five[3], five[4]));
         }

@@ -19,20 +19,11 @@ public final class PromisesTest {
     }
 
     private static int feed(WalkingBridge x, String text) {
-        int fed = 0;
-        for (int at = 0; at < text.length(); at += 20) {
-            int[] five = new int[5];
-            for (int i = 0; i < 20; i++) {
-                five[i / 4] = five[i / 4] << 8 | (at + i < text.length() ? text.charAt(at + i) : ' ');
-            }
-            fed = x.feed(five[0], five[1], five[2], five[3], five[4]);
-        }
-        return fed;
+        return Fed.feed(x, text);
     }
 
     private static int tell(WalkingBridge x, String text) {
-        feed(x, text);
-        return x.text(text.length());
+        return Fed.tell(x, text);
     }
 
     private static WalkingBridge told(String text) {

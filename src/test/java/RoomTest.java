@@ -3,14 +3,7 @@ import java.lang.management.ManagementFactory;
 /** Calls make no objects: whatever a run asks, its room is what the constructors took. */
 public final class RoomTest {
     private static void tell(WalkingBridge x, String text) {
-        for (int at = 0; at < text.length(); at += 20) {
-            int[] five = new int[5];
-            for (int i = 0; i < 20; i++) {
-                five[i / 4] = five[i / 4] << 8 | (at + i < text.length() ? text.charAt(at + i) : ' ');
-            }
-            x.feed(five[0], five[1], five[2], five[3], five[4]);
-        }
-        if (x.text(text.length()) < 0) {
+        if (Fed.tell(x, text) < 0) {
             throw new IllegalStateException("fault " + x.fault(0) + " at " + x.fault(1));
         }
     }
