@@ -57,6 +57,14 @@ public final class FaceTest {
                         publicNames.contains(method.getName()), false);
             }
         }
+        for (Class<?> inside : face.getDeclaredClasses()) {
+            check(inside.getName() + " static", Modifier.isStatic(inside.getModifiers()), true);
+            check(inside.getName() + " public", Modifier.isPublic(inside.getModifiers()), false);
+            for (Method method : inside.getDeclaredMethods()) {
+                check("a method " + method.getName() + " inside of a public one's name",
+                        publicNames.contains(method.getName()), false);
+            }
+        }
         for (Field field : face.getDeclaredFields()) {
             int flags = field.getModifiers();
             check("visible field " + field.getName(), !Modifier.isPrivate(flags), field.getName().equals("NONE"));
