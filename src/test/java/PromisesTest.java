@@ -1,151 +1,76 @@
-import java.util.NoSuchElementException;
-
 /** Each promise of the document by hand-worked answers: ordinary inputs, edges, wrong inputs. */
-public final class PromisesTest {
-    private static final int NONE = WalkingBridge.NONE;
-    private static final int MIN = Integer.MIN_VALUE;
-    private static int wrong = 0;
-    private static String promise = "";
-
-    private static void due(String call, long got, long want) {
-        if (got != want) {
-            wrong++;
-            System.out.println(promise + ": " + call + " answered " + got + ", due is " + want);
-        }
-    }
-
-    private static void due(String call, boolean got, boolean want) {
-        due(call, got ? 1 : 0, want ? 1 : 0);
-    }
-
-    private static int feed(WalkingBridge x, String text) {
-        return Fed.feed(x, text);
-    }
-
-    private static int tell(WalkingBridge x, String text) {
-        return Fed.tell(x, text);
-    }
-
-    private static WalkingBridge told(String text) {
-        WalkingBridge x = new WalkingBridge();
-        long lines = text.chars().filter(sign -> sign == ';').count();
-        due("text of " + text, tell(x, text), lines);
-        due("fault(0) of " + text, x.fault(0), 0);
-        due("fault(1) of " + text, x.fault(1), NONE);
-        return x;
-    }
-
-    private static void faulty(String text, int fault, int place) {
-        WalkingBridge x = told("bridge 3 1 2;walker zz 3 1 0 right;");
-        due("text of " + text, tell(x, text), NONE);
-        due("fault(0) of " + text, x.fault(0), fault);
-        due("fault(1) of " + text, x.fault(1), place);
-        due("all stays after " + text, x.count(0), 3);
-        due("all stays after " + text, x.named(0, letters("zz")), 0);
-        due("the tape is empty after " + text, x.feed(0, 0, 0, 0, 0), 20);
-    }
-
-    private static int letters(String name) {
-        int letters = 0;
-        for (int i = 0; i < 6; i++) {
-            letters = letters << 5 | (i < name.length() ? name.charAt(i) - 'a' + 1 : 0);
-        }
-        return letters;
-    }
-
-    private static String times(String piece, int n) {
-        return piece.repeat(n);
-    }
-
-    private static void states(String what, WalkingBridge x, int... want) {
-        for (int c = 0; c < want.length; c++) {
-            due(what + " of cell " + c, x.cell(c, what.equals("side") ? 2 : 0), want[c]);
-        }
-    }
-
-    private static String thrown(WalkingBridge x, int walker, int what) {
-        try {
-            x.look(walker, what);
-            return "nothing";
-        } catch (IndexOutOfBoundsException | NoSuchElementException e) {
-            return e.getClass().getSimpleName();
-        }
-    }
-
+public final class PromisesTest extends Checks {
     public static void main(String[] args) {
-        promise = "promise 1";
+        about("promise 1");
         newObject();
-        promise = "promise 2";
+        about("promise 2");
         tape();
-        promise = "promise 3";
+        about("promise 3");
         texts();
-        promise = "promise 4";
+        about("promise 4");
         faults();
         lawFaults();
-        promise = "promise 5";
+        about("promise 5");
         names();
-        promise = "promise 6";
+        about("promise 6");
         looks();
-        promise = "promise 7";
+        about("promise 7");
         cells();
-        promise = "promise 8";
+        about("promise 8");
         laws();
-        promise = "promise 9";
+        about("promise 9");
         times();
         walkersGo();
         planks();
         sideways();
         gales();
         bounds();
-        promise = "promise 10";
+        about("promise 10");
         past();
-        promise = "promise 11";
+        about("promise 11");
         fatOnes();
-        promise = "promise 12";
+        about("promise 12");
         offs();
-        promise = "promise 13";
+        about("promise 13");
         blows();
-        promise = "promise 14";
+        about("promise 14");
         strikes();
-        promise = "promise 15";
+        about("promise 15");
         highs();
-        promise = "promise 16";
+        about("promise 16");
         creaks();
-        promise = "promise 17";
+        about("promise 17");
         lies();
-        promise = "promise 18";
+        about("promise 18");
         fewest();
-        promise = "promise 19";
+        about("promise 19");
         forbidden();
-        promise = "promise 20";
+        about("promise 20");
         cancels();
-        promise = "promise 21";
+        about("promise 21");
         owes();
-        promise = "promise 22";
+        about("promise 22");
         pumps();
-        promise = "promise 23";
+        about("promise 23");
         keepers();
-        promise = "promises 24 to 26";
+        about("promises 24 to 26");
         groans();
         knowing();
-        promise = "promises 27 to 29";
+        about("promises 27 to 29");
         beginnings();
-        promise = "promise 30";
+        about("promise 30");
         fits();
-        promise = "promise 31";
+        about("promise 31");
         galesDrawn();
-        promise = "promise 32";
+        about("promise 32");
         tried();
-        promise = "promise 33";
+        about("promise 33");
         undone();
-        promise = "promises 34 and 35";
+        about("promises 34 and 35");
         images();
-        promise = "promise 36";
+        about("promise 36");
         counts();
-        System.out.println(wrong == 0 ? "all promises hold" : wrong + " answers are not as due");
-        if (wrong != 0) {
-            System.exit(1);
-        }
+        finish("all promises hold");
     }
 
     private static void newObject() {
