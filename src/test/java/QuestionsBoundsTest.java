@@ -141,6 +141,12 @@ public final class QuestionsBoundsTest extends Checks {
         late.beats(199);
         due("TIME 10062 of those to come", late.high(64), 50);
         due("not by 63", late.high(63), 0);
+        WalkingBridge walks = told("bridge 5 0 0;calm 0;walker a 10 1 0 right;walker b 10 1 0 left;law push (place=3)*70+(place=1)*(weight+10*foot);");
+        walks.beats(2);
+        due("b is at 3 now", walks.count(12), 70);
+        due("both at 2 then", walks.high(1), 140);
+        due("and a at 3", walks.high(2), 280);
+        due("asked once more", walks.high(1), 140);
         WalkingBridge hold = told("bridge 2 0 0;calm 0;hold 25;walker a 10 1 0 stay 0;");
         due("planks are lost on the way", hold.high(4), 10 + 20 + 20 + 20);
         due("none is lost now", hold.count(10), 0);
@@ -912,6 +918,22 @@ public final class QuestionsBoundsTest extends Checks {
         due("sure(6) of none", x.sure(6), NONE);
         due("sure(-1) of none", x.sure(-1), NONE);
         due("without walkers", new WalkingBridge().sure(0), NONE);
+        WalkingBridge apart = told(SIX);
+        apart.groan(0, 0, 31, true);
+        apart.groan(0, 0, 33, false);
+        due("31 and 32", apart.began(), 2);
+        for (int w = 0; w < 6; w++) {
+            due("in one of both: " + w, apart.sure(w), 2);
+        }
+        WalkingBridge every = told(SIX);
+        every.groan(0, 0, 63, true);
+        WalkingBridge nobody = told(SIX);
+        nobody.groan(0, 0, 1, false);
+        for (int w = 0; w < 6; w++) {
+            due("all six alone: " + w, every.sure(w), 1);
+            due("the empty set alone: " + w, nobody.sure(w), 0);
+        }
+        due("in some of both", told("walker a 1 1 0 stay 0;").sure(0), 2);
         WalkingBridge all = told("bridge 2 0 0;calm 0;walker a 1 1 0 stay 0;");
         all.groan(0, 0, 1, true);
         due("in the only one", all.sure(0), 1);

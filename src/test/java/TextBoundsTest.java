@@ -22,6 +22,10 @@ public final class TextBoundsTest extends Checks {
         notSoMany();
         about("text: TIME 0, at rest, it doesn't BLOW, no GROANS, all KNOWN, no IMAGE, nothing to undo then");
         anew();
+        about("a TEXT has what it tells and nothing of those ahead: (8, 4 and 4 without), (5 without), (0), no WALKERS, no laws");
+        nothingOfThoseAhead();
+        about("a TEXT is read anew, whatever FAULT the one ahead had");
+        readAnew();
         about("text: NONE with a FAULT, all stays");
         allStays();
         about("text: how many LINES");
@@ -255,6 +259,82 @@ public final class TextBoundsTest extends Checks {
         x.blow(true);
         x.beats(1);
         due("no gale", x.count(13), 0);
+    }
+
+    private static final String ALL = "bridge 3 9 9;calm 90;heat 3;hold 2;gale 99;seed 7;walker x 30 1 0 right;walker y 30 1 0 stay 0;"
+            + "fat f 0 9;sleep s 0 1;may m 1+1;may n 2;may o 3;law push 9;law side 9;";
+
+    /** An object that was told all there is, three times, and then this text. */
+    private static WalkingBridge behindAll(String text) {
+        WalkingBridge x = new WalkingBridge();
+        for (int i = 0; i < 3; i++) {
+            due("all", tell(x, ALL), 15);
+        }
+        due("text of " + text, tell(x, text), text.chars().filter(sign -> sign == ';').count());
+        return x;
+    }
+
+    private static void nothingOfThoseAhead() {
+        WalkingBridge x = behindAll("");
+        int[] counts = {8, 0, 0, 0, 0, 0, 0, 0, 0, 0, 0, 0, 0, 0};
+        for (int what = 0; what < counts.length; what++) {
+            due("count(" + what + ")", x.count(what), counts[what]);
+        }
+        for (int kind = 0; kind < 4; kind++) {
+            due("a name of kind " + kind, x.named(kind, letters("" + "xfsm".charAt(kind))), NONE);
+        }
+        for (int c = 0; c < 8; c++) {
+            due("calm of " + c, x.cell(c, 4), 5);
+        }
+        x.beats(9);
+        due("nobody pushes up", x.count(12), 0);
+        due("nobody pushes aside", x.count(13), 0);
+        x.strike(0, 16);
+        x.beats(2);
+        states("up by 4, no heat, calm 5", x, 16 + 8, 4);
+        due("no hold", x.count(10), 0);
+        x.blow(true);
+        x.beats(3);
+        due("no gale", x.count(13), 0);
+        WalkingBridge side = behindAll("calm 0;walker a 1 9 0 stay 0;law side 16;");
+        side.beats(2);
+        states("side by 4", side, 24, 4);
+        due("no law of push", side.law(0, 0, 0, 0), Long.MIN_VALUE);
+        due("WEIGHT without", side.cell(0, 1) < 0 && side.cell(0, 1) >= -1, true);
+        due("no MAY", side.fits(), 1);
+        WalkingBridge push = behindAll("walker a 1 9 0 stay 0;law push warm;");
+        due("no law of side", push.law(1, 0, 0, 0), Long.MIN_VALUE);
+        due("no heat", push.law(0, 0, 0, 0), 0);
+        WalkingBridge gale = behindAll("bridge 2 0 0;calm 0;gale 99;");
+        WalkingBridge first = told("bridge 2 0 0;calm 0;gale 99;seed 0;");
+        gale.blow(true);
+        first.blow(true);
+        gale.beats(1);
+        first.beats(1);
+        due("no seed", gale.cell(1, 2), first.cell(1, 2));
+        WalkingBridge may = behindAll("walker a 1 9 0 stay 0;may p 4+4+4;");
+        due("knots", may.count(5), 5);
+        may.groan(0, 0, 12, true);
+        due("calm 5 leaves 12 of 12, WEIGHT without a law isn't as much", may.fits(), 1);
+        due("the law as told is none", behindAll("may p 4;").fits(), 3);
+    }
+
+    private static void readAnew() {
+        String[] faults = {"law push ((((((((1;", "law push 1+2*((3<4;", "law push 1<2 3;", "law push not not 1", "law push 1 or 2 and (3<4",
+            "law push (1<(2<(3<", "fat a 0 1;calm 1;heat 1;law push 1;law side 1;?", "may a not (1=1", "walker a 1 1 0 stay"};
+        for (String fault : faults) {
+            WalkingBridge x = new WalkingBridge();
+            due("text of " + fault, tell(x, fault), NONE);
+            String text = "bridge 3 1 1;calm 1;heat 1;fat a 0 1;walker a 7 1 0 right;law push 2+3*4<15;law side ((((((((weight))))))))-9;may a 1;";
+            due("text behind " + fault, tell(x, text), 8);
+            due("push behind " + fault, x.law(0, 0, 0, 0), 1);
+            due("side behind " + fault, x.law(1, 0, 0, 0), -2);
+            due("knots behind " + fault, x.count(5), 11);
+            due("text of " + fault, tell(x, fault), NONE);
+            due("a bridge behind " + fault, tell(x, "bridge 4 1 1;law side 1<2;law push (1=1)-5;walker a 1 1 0 right;"), 4);
+            due("push behind " + fault, x.law(0, 0, 0, 0), -4);
+            due("side behind " + fault, x.law(1, 0, 0, 0), 1);
+        }
     }
 
     private static void allStays() {
@@ -678,6 +758,7 @@ public final class TextBoundsTest extends Checks {
         }
         for (String sign : new String[] {"<", "<=", "=", "<>", ">=", ">", "+", "-", "*", "/"}) {
             faulty("law push 1" + sign + " not 1;", 1, 11 + sign.length());
+            told("law push 1" + sign + "(not 1);");
         }
         for (String first : new String[] {"<", "<=", "=", "<>", ">=", ">"}) {
             faulty("law push 1 " + first + " 2 = 3;", 1, 14 + first.length());
@@ -687,6 +768,16 @@ public final class TextBoundsTest extends Checks {
             told("law push 1 = (2 " + first + " 3);");
             told("law push 1 = 2 and 2 " + first + " 3 or 1 " + first + " 2;");
             faulty("law push 1 = (2 " + first + " 3) = 4;", 1, 20 + first.length());
+            for (String sign : new String[] {"+", "-", "*", "/"}) {
+                faulty("law push 1 " + first + " 2" + sign + "3 = 4;", 1, 16 + first.length());
+                told("law push 1" + sign + "2 " + first + " 3" + sign + "4;");
+            }
+            told("law push (1 and 2) " + first + " 3;");
+            told("law push 1 " + first + " (2 or 3);");
+            told("law push (not 1) " + first + " (not (1 and 2) and 3);");
+            told("law push ((1 and 2) " + first + " 3 or 4) = 5;");
+            faulty("law push (1 and 2) " + first + " 3 = 4;", 1, 22 + first.length());
+            faulty("law push 1 " + first + " (2 or 3) = 4;", 1, 21 + first.length());
         }
         faulty("bridge 4 4;", 1, 10);
         faulty("bridge 4 4 4 4;", 1, 13);
@@ -742,6 +833,20 @@ public final class TextBoundsTest extends Checks {
         feed(x, "calm 5;");
         due("text(4)", x.text(4), NONE);
         due("at the length", x.fault(1), 4);
+        String[] longer = {"law push timex;", "law push 1<=2;", "law push 12;", "calm 5; calm 5;"};
+        int[] cut = {13, 11, 10, 12};
+        int[] place = {13, 11, 10, 8};
+        for (int i = 0; i < longer.length; i++) {
+            feed(x, longer[i]);
+            due("text(" + cut[i] + ") of " + longer[i], x.text(cut[i]), NONE);
+            due("what is behind isn't read", x.fault(1), place[i]);
+        }
+        String[] ends = {"calm", "may a 1<", "may a 1", "may a time", "may a (", "calm 5", "x", "?"};
+        for (String end : ends) {
+            boolean token = !end.equals("x") && !end.equals("?");
+            faulty(times(" ", 700 - end.length()) + end, 1, token ? 700 : 699);
+        }
+        told(times(" ", 693) + "calm 5;");
         faulty("calm 5" + times(" ", 694), 1, 700);
     }
 
@@ -755,8 +860,11 @@ public final class TextBoundsTest extends Checks {
             for (String other : lines) {
                 if (!other.equals(line)) {
                     told(line + other);
+                    faulty(line + other + line, 3, line.length() + other.length());
+                    faulty(line + other + other, 3, line.length() + other.length());
                 }
             }
+            faulty(line + "law push 1;law side 1;" + line, 3, line.length() + 22);
         }
         for (String kind : new String[] {"push", "side"}) {
             String line = "law " + kind + " 1;";

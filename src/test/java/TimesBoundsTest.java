@@ -34,6 +34,8 @@ public final class TimesBoundsTest extends Checks {
         errors();
         about("A: B { and B }. B: not B | C. C: S [ .. S ]. S: T { ( + | - ) T }. T: P { ( * | / ) P }");
         bindings();
+        about("64 KNOTS, 8 '(' open: the longest laws are worked out");
+        longestLaws();
         about("a gale above 0, if it BLOWS");
         galeBlows();
         about("a number modulo (twice the gale and 1), less the gale");
@@ -58,7 +60,9 @@ public final class TimesBoundsTest extends Checks {
         pushEnds();
         about("if hold is above 0: a CELL whose UP is above it without sign: its PLANK is LOST (from then on)");
         holds();
-        about("look");
+        about("An object is used for at most 512 calls after it has been made");
+        lastCall();
+        about("look: IndexOutOfBoundsException: no such WALKER. NoSuchElementException: no such what");
         looks();
         about("cell: Integer.MIN_VALUE: no such ones");
         cells();
@@ -360,6 +364,7 @@ public final class TimesBoundsTest extends Checks {
             ten + "*2", "(0-" + ten + ")*2", "(1000*1000+1)*(1000*1000)", "(0-1000*1000)*(1000*1000+1)",
             ten + "*(" + ten + ")", "(0-" + ten + ")*(" + ten + ")", "(0-" + ten + ")*(0-" + ten + ")", "1/0*0", "0*(1/0)", "2-1/0",
             "8192*8192*8192*(8192*8192*8192)", "8192*8192*64*(8192*8192*64)", "8192*8192*64*(8192*8192*32)",
+            "8192*8192*8192*(0-8192*8192*8192)", "8192*8192*64*(0-8192*8192*64)", "8192*8192*8192*(0-8192*8192*8192)+1",
             "8192*8192*8192*(8192*8192*8192)+1", "(0-8192*8192*64)*(8192*8192*64)", "(0-8192*8192*64)*(8192*8192*32)"}) {
             due(error, value(error), Long.MIN_VALUE);
         }
@@ -373,6 +378,26 @@ public final class TimesBoundsTest extends Checks {
             "1=2 or 2=2", "1=1 and 2<>2", "not 0 and not 0", "5 and not 0<3", "(1)", "((7))", "(2)*(3)-(1)"},
                 new long[] {14, 10, 20, 4, 8, 5, 7, 8, 32, 32, 3, 6, 1, 1, 1, 1, 1, 4, 0, 1, 0, 1, 0, 0, 1, 1, 0, 1, 1, 0, 1, 0, 1,
                     1, 1, 0, 1, 0, 1, 7, 5});
+    }
+
+    private static void longestLaws() {
+        String eight = times("(", 8) + "7" + times(")", 8);
+        for (int nots = 54; nots <= 63; nots++) {
+            due(nots + " times not", value(times("not ", nots) + "7"), 1 - nots % 2);
+            due(nots + " times not of 0", value(times("not ", nots) + "0"), nots % 2);
+            due(nots + " times not, 8 '('", value(times("not ", nots) + eight), 1 - nots % 2);
+            due(nots + " times not in 8 '('", value(times("not (", 8) + times("not ", nots - 8) + "7" + times(")", 8)), 1 - nots % 2);
+        }
+        due("32 added", value("1" + times("+1", 31)), 32);
+        due("32 taken off", value("1" + times("-1", 31)), -30);
+        due("32 times", value("1" + times("*1", 30) + "*9"), 9);
+        due("not of 32", value("not 1" + times("+1", 31)), 0);
+        due("32 ors", value("0" + times(" or 0", 30) + " or 3"), 1);
+        due("32 ands", value("5" + times(" and 5", 30) + " and 0"), 0);
+        due("8 deep", value("9-(8-(7-(6-(5-(4-(3-(2-(1))))))))"), 9 - 8 + 7 - 6 + 5 - 4 + 3 - 2 + 1);
+        String ahead = "0 or 1 and 2=1+1*(";
+        due("all signs wait, 1", value(times(ahead, 6) + "1" + times(")", 6)), 1);
+        due("all signs wait, 2", value(times(ahead, 6) + "2" + times(")", 6)), 0);
     }
 
     private static void galeBlows() {
@@ -696,6 +721,14 @@ public final class TimesBoundsTest extends Checks {
         due("all planks", every.count(10), 12);
     }
 
+    private static void lastCall() {
+        WalkingBridge x = new WalkingBridge();
+        for (int i = 1; i <= 511; i++) {
+            due("strike " + i, x.strike(7, 1), i);
+        }
+        due("the 512th call", x.cell(7, 1), 511);
+    }
+
     // ---- promises 6 to 14 ----
 
     private static void looks() {
@@ -717,7 +750,10 @@ public final class TimesBoundsTest extends Checks {
                 due("look(" + w + ", " + what + ")", x.look(w, what), due[what]);
             }
         }
+        due("six at one CELL", x.cell(2, 6), 6);
+        due("nobody elsewhere", x.cell(1, 6), 0);
         x.off(5);
+        due("five are left", x.cell(2, 6), 5);
         int[] gone = {NONE, 6, 4, 1, GONE};
         for (int what = 0; what < 5; what++) {
             due("look(5, " + what + ") gone", x.look(5, what), gone[what]);

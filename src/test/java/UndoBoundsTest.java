@@ -27,6 +27,7 @@ public final class UndoBoundsTest extends Checks {
         noImage();
         about("back: all is as in the IMAGE: which TIME it is");
         allIsBack();
+        onTheWay();
         about("back: nothing to undo then");
         nothingToUndo();
         about("An IMAGE keeps all but GROANS");
@@ -190,6 +191,7 @@ public final class UndoBoundsTest extends Checks {
             due("no more of " + deeds, x.undo(), NONE);
             due("what is too long ago stays", x.cell(0, 1), speed);
         }
+        ofEachKind();
         WalkingBridge mixed = told("bridge 2 0 0;calm 0;walker a 1 1 0 right;");
         mixed.off(0);
         mixed.fat(0, 7);
@@ -207,6 +209,46 @@ public final class UndoBoundsTest extends Checks {
         due("the first fat one stays", mixed.cell(0, 4), 7);
         due("the second one doesn't", mixed.cell(1, 4), 0);
         due("it doesn't blow", mixed.count(11), 0);
+    }
+
+    /** 26 deeds of all kinds in turn, 20 of them undone; the bridge is as the test's own rows have it. */
+    private static void ofEachKind() {
+        WalkingBridge x = told("bridge 3 0 0;calm 0;walker a 1 1 0 right;walker b 1 1 0 right;walker c 1 1 0 right;"
+                + "walker d 1 1 0 right;walker e 1 1 0 right;walker f 1 1 0 right;");
+        int[][] states = new int[27][13];
+        for (int i = 1; i <= 26; i++) {
+            int[] state = states[i - 1].clone();
+            int cell = i % 3;
+            if (i % 4 == 0 && i / 4 <= 6) {
+                due("off", x.off(i / 4 - 1), true);
+                state[6 + i / 4 - 1] = 2;
+            } else if (i % 7 == 3) {
+                due("fat", x.fat(cell, i), state[12] / 2 + 1);
+                state[3 + cell] += i;
+                state[12] += 2;
+            } else if (i % 5 == 1) {
+                due("blow", x.blow(state[12] % 2 == 0), true);
+                state[12] ^= 1;
+            } else {
+                state[cell] += 100 + i;
+                due("strike", x.strike(cell, 100 + i), state[cell]);
+            }
+            states[i] = state;
+        }
+        for (int left = 19; left >= 0; left--) {
+            due("undo()", x.undo(), left);
+            int[] state = states[left + 6];
+            for (int c = 0; c < 3; c++) {
+                due("speed of " + c, x.cell(c, 1), state[c]);
+                due("calm of " + c, x.cell(c, 4), state[3 + c]);
+            }
+            for (int w = 0; w < 6; w++) {
+                due("walker " + w, x.look(w, 4), state[6 + w]);
+            }
+            due("FAT ones", x.count(2), state[12] / 2);
+            due("whether it blows", x.count(11), state[12] % 2);
+        }
+        due("no more", x.undo(), NONE);
     }
 
     private static void noTimeSince() {
@@ -398,6 +440,32 @@ public final class UndoBoundsTest extends Checks {
         for (int i = 0; i < next.length; i++) {
             due("answer " + i + " a TIME later, the gale's numbers too", now[i], next[i]);
         }
+    }
+
+    private static void onTheWay() {
+        WalkingBridge x = told("bridge 12 0 0;calm 0;walker a 10 1 0 right;walker b 10 1 0 left;");
+        x.beats(4);
+        x.keep();
+        x.beats(5);
+        due("a has gone on", x.look(0, 0), 8);
+        due("back()", x.back(), 4);
+        due("a's CELL", x.look(0, 0), 3);
+        due("b's CELL", x.look(1, 0), 8);
+        x.beats(1);
+        due("a goes on from there", x.look(0, 0), 4);
+        due("a pushes there", x.cell(4, 1), -10);
+        due("not yet ahead of it", x.cell(5, 1), 0);
+        WalkingBridge past = told("bridge 2 0 0;calm 0;walker a 1 1 0 stay 0;law push time=0;");
+        past.beats(70);
+        past.keep();
+        past.beats(200);
+        past.beats(23);
+        due("back()", past.back(), 70);
+        due("was(9)", past.was(9), NONE);
+        for (int time = 10; time < 70; time++) {
+            due("was(" + time + ") is as in the IMAGE", past.was(time), time + 1);
+        }
+        due("was(70)", past.was(70), NONE);
     }
 
     private static void nothingToUndo() {
