@@ -597,19 +597,16 @@ public final class WalkingBridge {
         if (sets == 0) {
             return LACKING;
         }
-        boolean inSome = false;
-        boolean outOfSome = false;
+        int with = 0;
         for (int set = 0; set < 64; set++) {
             if ((sets >>> set & 1) == 1) {
-                boolean in = (set >> walker & 1) == 1;
-                inSome |= in;
-                outOfSome |= !in;
+                with += set >> walker & 1;
             }
         }
-        if (inSome && outOfSome) {
-            return 2;
+        if (with == 0) {
+            return 0;
         }
-        return inSome ? 1 : 0;
+        return with == Long.bitCount(sets) ? 1 : 2;
     }
 
     /** The sets of walkers with whom the known groans are so: the bit of a set's own number is 1. */
@@ -678,7 +675,9 @@ public final class WalkingBridge {
         boolean within = true;
         for (int i = 0; i < n; i++) {
             trial.pass();
-            within &= trial.aside.greatest(plan.cells) <= bound;
+            if (trial.aside.greatest(plan.cells) > bound) {
+                within = false;
+            }
         }
         return within;
     }
@@ -1281,8 +1280,8 @@ public final class WalkingBridge {
 
         boolean areSo(int bits, int behind, int[] up) {
             for (int i = 0; i < size; i++) {
-                if ((bits >> i & 1) == 1 && time[i] == behind
-                        && Math.abs(up[cell[i]]) >= much[i] != atLeast[i]) {
+                boolean asked = (bits >> i & 1) == 1 && time[i] == behind;
+                if (asked && atLeast[i] != (Math.abs(up[cell[i]]) >= much[i])) {
                     return false;
                 }
             }
